@@ -10,6 +10,7 @@ public final class LineTest {
         firstFaults();
         codesOfWiderLanes();
         refusalsAndFaultsOfLine();
+        textEndsAheadOfTheRow();
         lineMakesAllAnew();
         refusedTextChangesNothing();
         ofPassenger();
@@ -159,10 +160,20 @@ public final class LineTest {
         Check.due("fault() of " + call, x.fault(), fault);
     }
 
+    private static void textEndsAheadOfTheRow() {
+        RegretLine x = new RegretLine();
+        String text = "r123;-u,p300,p500,";
+        Check.row(x, 2, 1, text.chars().toArray());
+        for (int n = 0; n <= text.length(); n++) {
+            int want = n == 12 ? 1 : n == 17 ? 2 : -100 - n;
+            Check.due("the first " + n + " of " + text, x.line(2, 1, 0, n), want);
+        }
+    }
+
     private static void lineMakesAllAnew() {
         RegretLine x = Check.on("r123;-u,p300,p500");
         x.limits(1, 2);
-        x.talk(0, 0, 1);
+        x.talk(0, 1, 0);
         x.dig(0, true);
         x.reading(0, 0, 0);
         x.tell(0);

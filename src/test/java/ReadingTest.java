@@ -9,6 +9,7 @@ public final class ReadingTest {
         back();
         began();
         beganByOthers();
+        fourOnEightMiles();
         kinds();
         fadings();
         guessesLeaveTheLine();
@@ -91,6 +92,19 @@ public final class ReadingTest {
         x.limits(10, 20);
         Check.due("other limits: how many", x.began(0, 0), 20);
         Check.due("other limits: the least", x.began(0, 1), 10);
+    }
+
+    private static void fourOnEightMiles() {
+        RegretLine x = Check.on("r444;--------,p101,p201,p301,w409");
+        x.reading(3, 8, 0);
+        Check.due("40 less 64", x.began(3, 0), 60);
+        x.reading(3, 4, 1);
+        // Less 32 it is 20 .. 39, less 64 below 20: 52 and more.
+        Check.due("how many", x.began(3, 0), 8);
+        Check.due("the least", x.began(3, 1), 52);
+        x.back(1);
+        Check.due("kinds of the last one", x.kinds(3), 7);
+        Check.due("fadings of the last one", x.fadings(3), 1023 - 7 - 8);
     }
 
     private static void kinds() {

@@ -162,6 +162,16 @@ public final class SheetTest {
         answer(x, "a SIZE", x.sheet(1, 1, -1), -14, 4);
         answer(x, "a text with a FIRST FAULT", x.line(0, 0, 0, 0), -100, 0);
         answer(x, "an INDEX", x.put(0, 60, 1), -13, 3);
+        x.sheet(2, 0, 3);
+        x.put(2, 3, 0);
+        answer(x, "copy behind an INDEX", x.copy(2, 0, 2, 1, 2), 2, 0);
+        x.put(2, 3, 0);
+        answer(x, "copy, refused", x.copy(9, 0, 2, 1, 2), UNKNOWN, 0);
+        x.put(2, 3, 0);
+        answer(x, "cell behind an INDEX", x.cell(2, 2, 0), 0, 0);
+        x.put(2, 3, 0);
+        answer(x, "as behind an INDEX", x.as(0, 0), 1, 0);
+        x.put(2, 3, 0);
         answer(x, "as, refused", x.as(1, 0), UNKNOWN, 0);
     }
 }
