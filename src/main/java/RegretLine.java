@@ -334,8 +334,7 @@ public final class RegretLine {
         if (noPassenger(p) || noClass(c) || which < 0 || which > 1) {
             return LOST;
         }
-        guess.becomeLike(train);
-        int upper = waysToBeDue(p, c, 0);
+        int upper = waysToBeDue(p, c);
         int lower = 1 << train.miles;
         // The lower number is a power of 2, so nothing but 2 can divide both.
         while (lower > 1 && upper % 2 == 0) {
@@ -345,17 +344,18 @@ public final class RegretLine {
         return which == 0 ? upper : lower;
     }
 
-    /** In how many ways the MILES from a MILE on bring one to a CLASS, by the guess ahead of it. */
-    private int waysToBeDue(int p, int c, int mile) {
-        if (mile >= train.miles) {
-            return guess.classDue(p, mile) == c ? 1 : 0;
+    /** In how many of all ways to dig the MILES one would be DUE in a CLASS behind the last one. */
+    private int waysToBeDue(int p, int c) {
+        int count = 0;
+        int ways = 1 << train.miles;
+        guess.becomeLike(train);
+        for (int way = 0; way < ways; way++) {
+            guess.digAndRide(way);
+            if (guess.classDue(p, guess.miles) == c) {
+                count++;
+            }
         }
-        guess.tunnel[mile] = false;
-        guess.rideThrough(mile);
-        int ifOpen = waysToBeDue(p, c, mile + 1);
-        guess.tunnel[mile] = true;
-        guess.rideThrough(mile);
-        return ifOpen + waysToBeDue(p, c, mile + 1);
+        return count;
     }
 
     // ---- 5 sheets, parts
@@ -751,6 +751,20 @@ public final class RegretLine {
             for (int mile = from; mile < miles; mile++) {
                 rideThrough(mile);
             }
+        }
+
+        // The last MILE has bit 0: from one number to the next mostly the last MILES change, and
+        // what is ahead of them need not be ridden again.
+        void digAndRide(int tunnels) {
+            int from = miles;
+            for (int mile = miles - 1; mile >= 0; mile--) {
+                boolean is = (tunnels >> (miles - 1 - mile) & 1) == 1;
+                if (tunnel[mile] != is) {
+                    tunnel[mile] = is;
+                    from = mile;
+                }
+            }
+            rideFrom(from);
         }
 
         void rideThrough(int mile) {
