@@ -11,6 +11,8 @@ public final class EaseBoundsTest {
         easeByTheLastSeat();
         easeOfTheMost();
         firstAsARow();
+        changesBetweenAllClasses();
+        easeAfterEachChange();
         easeIsASeatingThatCanBe();
         stuckRefused();
         stuckInEachMile();
@@ -43,10 +45,9 @@ public final class EaseBoundsTest {
         Check.due("the only one", Made.least().ease(0), 0);
         Twin.refused("ease(1) of a row of 1", Made::least, x -> x.ease(1), NONE);
         RegretLine x = Made.most();
-        x.ease(31);
-        Check.take(x, "r444;--,p500");
-        Check.due("a shorter row now", x.ease(1), 2);
-        Check.due("behind it", x.ease(2), NONE);
+        Check.due("the first of 32", x.ease(0), 1);
+        Check.take(x, "r444;--,p000");
+        Check.rowOfEase(x, "a shorter row now", 0, 0, 0);
     }
 
     private static void noEase() {
@@ -101,6 +102,35 @@ public final class EaseBoundsTest {
         Check.rowOfEase(Check.on("r444;-u-,p205"), "down for one mile: two changes or low", 1, 1, 1, 1);
         Check.rowOfEase(Check.on("r444;u-,h350"), "one change for one class", 1, 1, 2);
         Check.rowOfEase(Check.on("r222;-,p000,p000,p000"), "two and one", 1, 0, 0, 1);
+    }
+
+    /** A change is one, however far: low by as much or more is left for it. */
+    private static void changesBetweenAllClasses() {
+        for (int far = 1; far < 3; far++) {
+            RegretLine down = Check.on("r444;---,p409,p409");
+            down.limits(far == 1 ? 20 : 40, 40);
+            Check.rowOfEase(down, "down by " + far, 2, 2, 2, 2 - far, 2 - far, 2 - far, 2 - far);
+            RegretLine up = Check.on("r444;uuu,p190,p190");
+            up.limits(20, far == 1 ? 40 : 20);
+            Check.rowOfEase(up, "up by " + far, 2, 0, 0, far, far, far, far);
+        }
+        Check.rowOfEase(Check.on("r444;--,p405,p205"), "from 2 to 1, from 1 to 0", 2, 2, 1, 1, 0);
+    }
+
+    private static void easeAfterEachChange() {
+        RegretLine x = Check.on("r444;--,p190,p590");
+        Check.rowOfEase(x, "as told", 0, 0, 2, 0, 2);
+        x.dig(0, true);
+        Check.rowOfEase(x, "a tunnel", 1, 0, 2, 1, 2);
+        x.dig(0, false);
+        x.talk(0, 0, 1);
+        Check.rowOfEase(x, "they talk", 2, 0, 2, 1, 1);
+        x.talk(0, NONE, NONE);
+        Check.rowOfEase(x, "nobody talks", 0, 0, 2, 0, 2);
+        x.limits(19, 60);
+        Check.rowOfEase(x, "other limits", 0, 1, 1, 1, 1);
+        x.seats(1, 1);
+        Check.rowOfEase(x, "a seat for one", 2, 1, 2, 1, 2);
     }
 
     private static void easeIsASeatingThatCanBe() {
