@@ -12,6 +12,7 @@ public final class EaseBoundsTest {
         easeOfTheMost();
         firstAsARow();
         changesBetweenAllClasses();
+        changesOfEachOfFour();
         easeAfterEachChange();
         easeIsASeatingThatCanBe();
         stuckRefused();
@@ -115,6 +116,21 @@ public final class EaseBoundsTest {
             Check.rowOfEase(up, "up by " + far, 2, 0, 0, far, far, far, far);
         }
         Check.rowOfEase(Check.on("r444;--,p405,p205"), "from 2 to 1, from 1 to 0", 2, 2, 1, 1, 0);
+    }
+
+    /** One of four is low for a mile, as two changes would be dearer: whichever of them it is. */
+    private static void changesOfEachOfFour() {
+        for (int p = 0; p < 4; p++) {
+            StringBuilder text = new StringBuilder("r444;-u-");
+            int[] row = new int[12];
+            for (int q = 0; q < 4; q++) {
+                text.append(q == p ? ",p205" : ",p000");
+                for (int mile = 0; mile < 3; mile++) {
+                    row[4 * mile + q] = q == p ? 1 : 0;
+                }
+            }
+            Check.rowOfEase(Check.on(text.toString()), "low for a mile: " + p, 1, row);
+        }
     }
 
     private static void easeAfterEachChange() {
