@@ -1,15 +1,12 @@
+import java.lang.reflect.Constructor;
 import java.lang.reflect.Field;
 import java.lang.reflect.Method;
 import java.lang.reflect.Modifier;
-import java.nio.file.Files;
-import java.nio.file.Path;
 import java.util.Arrays;
 import java.util.Set;
 import java.util.TreeSet;
-import java.util.regex.Matcher;
-import java.util.regex.Pattern;
 
-/** The public face of the document, and those rules of LANGUAGE.md that a machine can look after. */
+/** The public face of the document: every constant, constructor and method, and no other member that is seen. */
 public final class FaceTest {
     private static final String[] METHODS = {
         "line(int,int,int,int)int", "ofPassenger(int,int)int", "seats(int,int)int", "limits(int,int)int",
@@ -19,71 +16,85 @@ public final class FaceTest {
         "odds(int,int,int)long", "sheet(int,int,int)int", "lose(int)int", "put(int,int,int)int",
         "cell(int,int,int)long", "copy(int,int,int,int,int)int", "tell(int)int", "call(int)int",
         "as(int,int)int", "trace()int", "fault()int", "many(int)int"};
-    private static final String[] NOT_TO_BE = {
-        "\\bthrow\\b", "\\bthrows\\b", "\\btry\\b", "\\bcatch\\b", "\\bsynchronized\\b", "\\bassert\\b", "->", "::",
-        "Exact\\b", "^package\\b", "\\bhashCode\\b", "\\btoString\\b", "\\bdouble\\b", "\\bfloat\\b",
-        "\\bstatic \\{", "\\bvolatile\\b", "\\bSystem\\.(?!arraycopy)"};
+    private static final String[] CONSTANTS = {
+        "int UNKNOWN", "int OUTSIDE", "int STATE", "int FULL", "int NONE", "long LOST"};
 
-    public static void main(String[] args) throws Exception {
-        constants();
-        members();
-        source(Files.readString(Path.of(args.length > 0 ? args[0] : "src/main/java/RegretLine.java")));
+    public static void main(String[] args) throws ReflectiveOperationException {
+        valuesOfConstants();
+        theClass();
+        fields();
+        methods();
+        classesInside();
         Check.finish("FaceTest");
     }
 
-    private static void constants() {
-        Check.due("UNKNOWN", RegretLine.UNKNOWN, -1);
-        Check.due("OUTSIDE", RegretLine.OUTSIDE, -2);
-        Check.due("STATE", RegretLine.STATE, -3);
-        Check.due("FULL", RegretLine.FULL, -4);
-        Check.due("NONE", RegretLine.NONE, -9);
-        Check.due("LOST", RegretLine.LOST, Long.MIN_VALUE);
+    // By reflection: javac would write the values of constants into this test.
+    private static void valuesOfConstants() throws ReflectiveOperationException {
+        long[] values = {-1, -2, -3, -4, -9, Long.MIN_VALUE};
+        for (int k = 0; k < CONSTANTS.length; k++) {
+            Field constant = RegretLine.class.getField(CONSTANTS[k].split(" ")[1]);
+            Check.due(CONSTANTS[k], constant.getLong(null), values[k]);
+        }
     }
 
-    private static void members() {
-        Class<?> face = RegretLine.class;
-        Check.due("public and final", Modifier.isPublic(face.getModifiers()) && Modifier.isFinal(face.getModifiers()));
-        Check.due("one constructor", face.getDeclaredConstructors().length, 1);
-        Check.due("it is public", face.getConstructors().length, 1);
+    private static void theClass() {
+        int is = RegretLine.class.getModifiers();
+        Check.due("public and final", Modifier.isPublic(is) && Modifier.isFinal(is));
+        Check.due("above it is Object alone", RegretLine.class.getSuperclass() == Object.class);
+        Check.due("it is nothing else", RegretLine.class.getInterfaces().length, 0);
+        Check.due("no package", RegretLine.class.getPackageName().isEmpty());
+        Constructor<?>[] made = RegretLine.class.getDeclaredConstructors();
+        Check.due("one constructor", made.length, 1);
+        Check.due("it is public", Modifier.isPublic(made[0].getModifiers()));
+        Check.due("it takes nothing", made[0].getParameterCount(), 0);
+    }
+
+    private static void fields() {
         Set<String> open = new TreeSet<>();
-        Set<String> names = new TreeSet<>();
-        for (Method m : face.getDeclaredMethods()) {
-            if (Modifier.isPublic(m.getModifiers())) {
-                String takes = Arrays.toString(m.getParameterTypes()).replaceAll("[\\[\\] ]", "");
-                open.add(m.getName() + "(" + takes + ")" + m.getReturnType());
-                names.add(m.getName());
+        for (Field f : RegretLine.class.getDeclaredFields()) {
+            int is = f.getModifiers();
+            if (Modifier.isPrivate(is)) {
+                continue;
             }
+            open.add(f.getType() + " " + f.getName());
+            Check.due(f.getName() + " is a public constant",
+                Modifier.isPublic(is) && Modifier.isStatic(is) && Modifier.isFinal(is));
+        }
+        Check.due("constants " + open, open.equals(new TreeSet<>(Arrays.asList(CONSTANTS))));
+    }
+
+    private static Set<String> namesOfCalls() {
+        Set<String> names = new TreeSet<>();
+        for (String method : METHODS) {
+            names.add(method.substring(0, method.indexOf('(')));
+        }
+        return names;
+    }
+
+    private static void methods() {
+        Set<String> open = new TreeSet<>();
+        for (Method m : RegretLine.class.getDeclaredMethods()) {
+            int is = m.getModifiers();
+            if (Modifier.isPrivate(is)) {
+                Check.due("private " + m.getName() + " is named otherwise", !namesOfCalls().contains(m.getName()));
+                continue;
+            }
+            String takes = Arrays.toString(m.getParameterTypes()).replaceAll("[\\[\\] ]", "");
+            open.add(m.getName() + "(" + takes + ")" + m.getReturnType());
+            Check.due(m.getName() + " is public, of an object", Modifier.isPublic(is) && !Modifier.isStatic(is));
+            Check.due(m.getName() + " throws nothing", m.getExceptionTypes().length, 0);
         }
         Check.due("methods " + open, open.equals(new TreeSet<>(Arrays.asList(METHODS))));
-        for (Method m : face.getDeclaredMethods()) {
-            boolean hidden = Modifier.isPrivate(m.getModifiers()) && !names.contains(m.getName());
-            Check.due("method " + m.getName(), hidden != Modifier.isPublic(m.getModifiers()));
-        }
-        Set<String> constants = Set.of("UNKNOWN", "OUTSIDE", "STATE", "FULL", "NONE", "LOST");
-        for (Field f : face.getDeclaredFields()) {
-            Check.due("field " + f.getName(), Modifier.isPrivate(f.getModifiers()) != constants.contains(f.getName()));
-        }
-        Check.due("classes inside", face.getDeclaredClasses().length <= 11);
-        for (Class<?> inside : face.getDeclaredClasses()) {
-            Check.due("class " + inside.getName(), Modifier.isStatic(inside.getModifiers()));
-            Check.due("fields of " + inside.getName(), inside.getDeclaredFields().length <= 20);
-            for (Method m : inside.getDeclaredMethods()) {
-                Check.due("method inside " + m.getName(), !names.contains(m.getName()));
-            }
-        }
     }
 
-    private static void source(String text) {
-        String code = text.replaceAll("(?s)/\\*.*?\\*/", "").replaceAll("//[^\n]*", "");
-        for (String word : NOT_TO_BE) {
-            Matcher found = Pattern.compile(word, Pattern.MULTILINE).matcher(code);
-            Check.due("no " + word, !found.find());
+    private static void classesInside() {
+        for (Class<?> inside : RegretLine.class.getDeclaredClasses()) {
+            int is = inside.getModifiers();
+            Check.due(inside + " is static", Modifier.isStatic(is));
+            Check.due(inside + " is not seen", !Modifier.isPublic(is) && !Modifier.isProtected(is));
+            for (Method m : inside.getDeclaredMethods()) {
+                Check.due(inside + ": " + m.getName(), !namesOfCalls().contains(m.getName()));
+            }
         }
-        Matcher imports = Pattern.compile("^import ([^;]+);", Pattern.MULTILINE).matcher(code);
-        while (imports.find()) {
-            String name = imports.group(1);
-            Check.due("import " + name, Set.of("java.util.Arrays", "java.util.ArrayList", "java.util.List").contains(name));
-        }
-        Check.due("signs 1 to 127", text.chars().allMatch(c -> c >= 1 && c <= 127));
     }
 }
